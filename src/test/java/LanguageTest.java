@@ -1,0 +1,112 @@
+import java.io.IOException;
+import java.lang.reflect.Field;
+import java.lang.reflect.Method;
+import java.lang.reflect.Modifier;
+import java.nio.file.Files;
+import java.nio.file.Path;
+import java.util.ArrayList;
+import java.util.List;
+import java.util.Set;
+import java.util.TreeSet;
+import java.util.regex.Matcher;
+import java.util.regex.Pattern;
+
+/** The rules of LANGUAGE.md that a program can look after; run it in the project's folder. */
+final class LanguageTest {
+    private static final Due due = new Due("LanguageTest");
+    private static final String[] FACE = {
+        "int nodes(int)", "int vertex(int,int)", "int arc(int,int,int)", "int kind(int)",
+        "int joined(boolean)", "int every(int)", "int start()", "int letter(int,int)",
+        "long entry(int,int,int)", "int deliver(int)", "int lose(int)", "int copy(int)",
+        "int resend(int,int)", "int crash(int)", "int back()", "int move(int,int)",
+        "long of(int,int)", "long alone(int,int,int)", "int node(int,int)", "int told(int)"};
+
+    public static void main(String[] args) throws IOException {
+        face();
+        classes();
+        source(Files.readString(Path.of("src/main/java/SplitNodes.java")));
+        due.end();
+    }
+
+    private static void face() {
+        Class<?> c = SplitNodes.class;
+        due.isTrue("1 public and final", Modifier.isPublic(c.getModifiers()) && Modifier.isFinal(c.getModifiers()));
+        Set<String> found = new TreeSet<>();
+        for (Method m : c.getDeclaredMethods()) {
+            if (!Modifier.isPrivate(m.getModifiers())) {
+                found.add(signature(m));
+                due.isTrue("1 public: " + m, m.getModifiers() == Modifier.PUBLIC);
+            }
+        }
+        due.isTrue("1 methods: " + found, found.equals(new TreeSet<>(List.of(FACE))));
+        due.is("1 constructors", c.getDeclaredConstructors().length, 1);
+        due.is("1 public constructors", c.getConstructors().length, 1);
+        Set<String> constants = new TreeSet<>();
+        for (Field f : c.getDeclaredFields()) {
+            if (!Modifier.isPrivate(f.getModifiers())) {
+                constants.add(f.getType() + " " + f.getName());
+            }
+        }
+        due.isTrue("1 constants: " + constants,
+            constants.equals(Set.of("int BAD", "int STATE", "int FULL", "long NONE")));
+    }
+
+    private static String signature(Method m) {
+        List<String> types = new ArrayList<>();
+        for (Class<?> type : m.getParameterTypes()) {
+            types.add(type.getName());
+        }
+        return m.getReturnType() + " " + m.getName() + "(" + String.join(",", types) + ")";
+    }
+
+    private static void classes() {
+        List<Class<?>> all = new ArrayList<>(List.of(SplitNodes.class));
+        all.addAll(List.of(SplitNodes.class.getDeclaredClasses()));
+        due.isTrue("11 at most twelve classes", all.size() <= 12);
+        Set<String> publicNames = new TreeSet<>();
+        for (Method m : SplitNodes.class.getMethods()) {
+            publicNames.add(m.getName());
+        }
+        for (Class<?> c : all) {
+            if (c != SplitNodes.class) {
+                int mods = c.getModifiers();
+                due.isTrue("1 private and static: " + c, Modifier.isPrivate(mods) && Modifier.isStatic(mods));
+                due.is("2 no classes within: " + c, c.getDeclaredClasses().length, 0);
+            }
+            int fields = 0;
+            for (Field f : c.getDeclaredFields()) {
+                if (Modifier.isStatic(f.getModifiers())) {
+                    due.isTrue("5 static fields are final: " + f, Modifier.isFinal(f.getModifiers()));
+                } else {
+                    fields++;
+                }
+            }
+            due.isTrue("11 at most twenty fields: " + c, fields <= 20);
+            for (Method m : c.getDeclaredMethods()) {
+                due.isTrue("11 at most seven parameters: " + m, m.getParameterCount() <= 7);
+                boolean ofTheFace = c == SplitNodes.class && Modifier.isPublic(m.getModifiers());
+                due.isTrue("1 a name of the face: " + m, ofTheFace || !publicNames.contains(m.getName()));
+            }
+        }
+    }
+
+    private static void source(String text) {
+        String code = text.replaceAll("(?s)/\\*.*?\\*/", "").replaceAll("//[^\n]*", "");
+        String[] banned = {"throw", "throws", "try", "catch", "synchronized", "assert", "package",
+            "double", "float", "Object", "System\\.(?!arraycopy)\\w+", "Math\\.\\w+Exact", "hashCode", "toString"};
+        for (String word : banned) {
+            absent(code, "\\b" + word + "\\b");
+        }
+        absent(code, "->");
+        absent(code, "::");
+        absent(code, "while \\(true\\)|for \\(;;\\)");
+        absent(code, "\"");
+        absent(code, "import (?!java\\.util\\.Arrays;)");
+        due.isTrue("3 characters 0 to 255", text.chars().allMatch(ch -> ch <= 255));
+    }
+
+    private static void absent(String code, String pattern) {
+        Matcher m = Pattern.compile(pattern).matcher(code);
+        due.isTrue("not in the source: " + pattern, !m.find());
+    }
+}
