@@ -828,13 +828,17 @@ public final class SplitNodes {
             return kept[slot(ofRound, other)];
         }
 
-        /** The mark of the round before the last mark's is given up for this round's. */
+        /** The older of the two marks is given up for one of this round. */
         Mark nextMark() {
+            swapMarks();
+            newest.round = round;
+            return newest;
+        }
+
+        private void swapMarks() {
             Mark mark = older;
             older = newest;
             newest = mark;
-            mark.round = round;
-            return mark;
         }
 
         void fail() {
@@ -845,9 +849,7 @@ public final class SplitNodes {
 
         void goBack(int m) {
             if (newest.round != m) {
-                Mark mark = older;
-                older = newest;
-                newest = mark;
+                swapMarks();
                 older.round = NO_MARK;
             }
             forgetLetters();

@@ -117,6 +117,15 @@ final class FailingNodesTest {
         x.crash(0);
         due.is("16 again to the same mark", x.back(), 2);
         due.is("16 epoch", x.told(10), 2);
+        Runs.empty(x);
+        x.resend(0, 1);
+        x.resend(1, 0);
+        Runs.deliverFirst(x, 2);
+        Runs.deliverTo(x, 0);
+        due.is("16 now node 0 is ahead", x.node(0, 5), 4);
+        x.crash(0);
+        due.is("16 node 1's mark of 4 is no more", x.back(), 2);
+        due.is("16 total of node 1", x.of(1, 1), 2);
     }
 
     private static void backWithRoundZeroAlone() {

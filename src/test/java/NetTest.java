@@ -8,6 +8,7 @@ final class NetTest {
         deliver();
         deliverAhead();
         deliverLatest();
+        notActive();
         end();
         lastRound();
         lose();
@@ -158,6 +159,27 @@ final class NetTest {
         }
     }
 
+    /** Vertex 0 has the greatest arc to vertex 2 but is active in round 0 alone; vertex 1 always is. */
+    private static void notActive() {
+        for (int home = 0; home < 2; home++) {
+            SplitNodes x = new SplitNodes();
+            x.vertex(0, 0);
+            x.vertex(0, 0);
+            x.vertex(home, 0);
+            x.arc(1, 1, 1);
+            x.arc(1, 2, 10);
+            x.arc(0, 2, 100);
+            x.kind(3);
+            x.start();
+            Runs.deliverFirst(x, 2);
+            due.is("11 not active: round 1", x.of(2, 0), 100);
+            due.is("11 not active", x.of(0, 2), 0);
+            Runs.deliverFirst(x, 2);
+            due.is("11 not active: sends nothing in round 1", x.of(2, 0), 11);
+            due.is("19 not active: sends nothing in round 1", x.alone(2, 2, 0), 11);
+        }
+    }
+
     private static void end() {
         SplitNodes x = new SplitNodes();
         x.vertex(0, 5);
@@ -166,6 +188,7 @@ final class NetTest {
         x.start();
         Runs.deliverFirst(x, 2);
         due.is("11 none is active in round 1", x.letter(0, 5) + x.letter(1, 5), 0);
+        due.is("10 who is not active sends nothing", x.letter(0, 4) + x.letter(1, 4), 0);
         due.is("11 not ended before the letters", x.node(1, 1), 0);
         due.is("11 the last letter", Runs.deliverTo(x, 1), 0);
         due.is("11 ended", x.node(1, 1), 1);
