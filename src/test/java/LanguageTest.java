@@ -24,7 +24,10 @@ final class LanguageTest {
     public static void main(String[] args) throws IOException {
         face();
         classes();
-        source(Files.readString(Path.of("src/main/java/SplitNodes.java")));
+        String text = Files.readString(Path.of("src/main/java/SplitNodes.java"));
+        source(text);
+        sections(text);
+        methodsAreShort(text);
         due.end();
     }
 
@@ -103,6 +106,34 @@ final class LanguageTest {
         absent(code, "\"");
         absent(code, "import (?!java\\.util\\.Arrays;)");
         due.isTrue("3 characters 0 to 255", text.chars().allMatch(ch -> ch <= 255));
+    }
+
+    /** The document: ahead of these calls the interface says so. */
+    private static void sections(String text) {
+        String[] inOrder = {"int start(", "// ---- the net\n", "int letter(", "int resend(",
+            "// ---- nodes that fail\n", "int crash(", "int move(", "// ---- what there is\n", "long of(", "int told("};
+        int at = 0;
+        for (String part : inOrder) {
+            int found = text.indexOf(part);
+            due.isTrue("in its place: " + part.trim(), found > at);
+            at = found;
+        }
+    }
+
+    /** Methods of the class stand four spaces in, those of the classes inside it eight. */
+    private static void methodsAreShort(String text) {
+        for (String indent : new String[] {"    ", "        "}) {
+            int begun = -1;
+            String[] lines = text.split("\n");
+            for (int i = 0; i < lines.length; i++) {
+                if (lines[i].matches(indent + "[A-Za-z].*\\) \\{")) {
+                    begun = i;
+                } else if (lines[i].equals(indent + "}") && begun >= 0) {
+                    due.isTrue("11 some sixty lines: " + lines[begun].trim(), i - begun < 60);
+                    begun = -1;
+                }
+            }
+        }
     }
 
     private static void absent(String code, String pattern) {
