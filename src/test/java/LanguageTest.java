@@ -6,13 +6,19 @@ import java.nio.file.Files;
 import java.nio.file.Path;
 import java.util.ArrayList;
 import java.util.List;
+import java.util.Map;
 import java.util.Set;
+import java.util.TreeMap;
 import java.util.TreeSet;
 import java.util.regex.Matcher;
 import java.util.regex.Pattern;
 
 /** The rules of LANGUAGE.md that a program can look after; run it in the project's folder. */
 final class LanguageTest {
+    private static final int MOST_DEEP = 8;
+    /** A method: how far it stands in, its name, what is in it. */
+    private static final Pattern METHOD = Pattern.compile(
+        "(?ms)^( {4}| {8})[A-Za-z][\\w\\[\\] ]*?(\\w+)\\([^)\n]*\\) \\{$(.*?)^\\1\\}$");
     private static final Due due = new Due("LanguageTest");
     private static final String[] FACE = {
         "int nodes(int)", "int vertex(int,int)", "int arc(int,int,int)", "int kind(int)",
@@ -28,6 +34,7 @@ final class LanguageTest {
         source(text);
         sections(text);
         methodsAreShort(text);
+        callsAreNotDeep(text);
         due.end();
     }
 
@@ -134,6 +141,40 @@ final class LanguageTest {
                 }
             }
         }
+    }
+
+    /** Methods of one name count as one, which can only make the calls look deeper than they are. */
+    private static void callsAreNotDeep(String text) {
+        Map<String, Set<String>> calls = callsByName(text);
+        for (Method m : SplitNodes.class.getDeclaredMethods()) {
+            due.isTrue("8, 11 read in the source: " + m.getName(), calls.containsKey(m.getName()));
+            int deep = depth(m.getName(), calls, MOST_DEEP + 1);
+            due.isTrue("8, 11 at most eight deep, no recursion: " + m.getName(), deep <= MOST_DEEP);
+        }
+    }
+
+    private static Map<String, Set<String>> callsByName(String text) {
+        Map<String, Set<String>> calls = new TreeMap<>();
+        Matcher method = METHOD.matcher(text);
+        while (method.find()) {
+            Set<String> called = calls.computeIfAbsent(method.group(2), name -> new TreeSet<>());
+            Matcher call = Pattern.compile("(\\w+)\\(").matcher(method.group(3));
+            while (call.find()) {
+                called.add(call.group(1));
+            }
+        }
+        return calls;
+    }
+
+    /** How many calls stand open at once, the library's own too, looked at no deeper than a limit. */
+    private static int depth(String name, Map<String, Set<String>> calls, int limit) {
+        int below = 0;
+        if (limit > 1) {
+            for (String called : calls.getOrDefault(name, Set.of())) {
+                below = Math.max(below, depth(called, calls, limit - 1));
+            }
+        }
+        return 1 + below;
     }
 
     private static void absent(String code, String pattern) {
